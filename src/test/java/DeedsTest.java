@@ -581,22 +581,15 @@ public final class DeedsTest {
 
     /** Each deed counts once, also if nothing becomes different, and goes back whole. */
     private void promise27EveryDeed() {
-        StyleFamilies x = with(2, 2);
-        x.sets(0, 2, 40);
-        x.sets(1, 2, 40);
-        x.direct(0, 2, 40);
-        x.parent(1, 0);
-        x.apply(1, 1);
-        x.keep(0);
         for (int deed = 0; deed < 16; deed++) {
-            x.goBack(0);
+            StyleFamilies x = withLooks();
             int before = print(x);
             callDeed(x, deed);
             due.is("27: deed " + deed + " counts", x.told(12), 1);
             due.is("27: deed " + deed + " is undone", x.undo(1), 0);
             due.is("27: all as before deed " + deed, print(x), before);
         }
-        x.goBack(0);
+        StyleFamilies x = withLooks();
         x.head(6);
         x.ground(0, 0);
         x.direct(0, 2, 40);
@@ -605,6 +598,17 @@ public final class DeedsTest {
         x.parent(1, 0);
         x.swap(0, 0);
         due.is("27: deeds that make nothing different", x.told(12), 7);
+    }
+
+    private static StyleFamilies withLooks() {
+        StyleFamilies x = with(2, 2);
+        x.sets(0, 2, 40);
+        x.sets(1, 2, 40);
+        x.direct(0, 2, 40);
+        x.parent(1, 0);
+        x.apply(1, 1);
+        x.keep(0);
+        return x;
     }
 
     private static void callDeed(StyleFamilies x, int deed) {
@@ -630,20 +634,22 @@ public final class DeedsTest {
 
     /** One number for all that can be seen of styles, paragraphs, ground and head cost. */
     private static int print(StyleFamilies x) {
-        int print = x.told(0) * 31 + x.told(1) * 37 + x.told(9);
+        int paragraphs = x.told(0);
+        int styles = x.told(1);
+        int print = paragraphs * 31 + styles * 37 + x.told(9);
         for (int property = 0; property < 6; property++) {
             print = print * 31 + x.styleHas(NONE, property);
-            for (int s = 0; s < x.told(1); s++) {
+            for (int s = 0; s < styles; s++) {
                 print = print * 31 + x.styleHas(s, property);
             }
-            for (int p = 0; p < x.told(0); p++) {
+            for (int p = 0; p < paragraphs; p++) {
                 print = print * 31 + x.has(p, property);
             }
         }
-        for (int s = 0; s < x.told(1); s++) {
+        for (int s = 0; s < styles; s++) {
             print = (print * 31 + x.styleAt(s, 0)) * 31 + x.styleAt(s, 5);
         }
-        for (int p = 0; p < x.told(0); p++) {
+        for (int p = 0; p < paragraphs; p++) {
             print = (print * 31 + x.paragraphAt(p, 0)) * 31 + x.paragraphAt(p, 5);
         }
         return print;

@@ -1,5 +1,3 @@
-import java.lang.reflect.Method;
-import java.lang.reflect.Modifier;
 import java.util.Random;
 
 /** Long runs of random calls, right and wrong ones, on the class and on the naive program side by side. */
@@ -42,7 +40,7 @@ public final class RandomRunsTest {
     private boolean wholeRun(int seed) {
         StyleFamilies x = new StyleFamilies();
         NaiveFamilies y = new NaiveFamilies();
-        for (int k = 0; k < 480; k++) {
+        for (int k = 0; k < 512; k++) {
             if (!oneCall(x, y)) {
                 System.out.println("in the run of seed " + seed + ":\n" + run);
                 return false;
@@ -52,12 +50,12 @@ public final class RandomRunsTest {
     }
 
     private boolean oneCall(StyleFamilies x, NaiveFamilies y) {
-        int call = drawCall();
-        int[] a = arguments(call, x);
-        int got = answer(x, NAMES[call], a);
-        int want = answer(y, NAMES[call], a);
-        run.append(NAMES[call]).append('(').append(a[0]).append(", ").append(a[1]).append(", ").append(a[2])
-            .append(") = ").append(got).append('\n');
+        int drawn = drawCall();
+        // The naive program is asked what there is: an object is used for at most 512 calls.
+        Call call = new Call(NAMES[drawn], arguments(drawn, y));
+        int got = call.on(x);
+        int want = call.on(y);
+        run.append(call.text()).append(" = ").append(got).append('\n');
         if (got != want) {
             run.append("due is ").append(want).append('\n');
         }
@@ -101,56 +99,37 @@ public final class RandomRunsTest {
         return count == 0 || random.nextInt(25) == 0 ? upTo(8) - 1 : random.nextInt(count);
     }
 
-    private int[] arguments(int call, StyleFamilies x) {
-        int paragraphs = x.told(0);
-        int styles = x.told(1);
+    private int[] arguments(int call, NaiveFamilies y) {
+        int paragraphs = y.told(0);
+        int styles = y.told(1);
         int property = upTo(5);
         switch (NAMES[call]) {
-            case "told": return new int[] {upTo(13), 0, 0};
-            case "has": case "from": return new int[] {among(paragraphs), property, 0};
-            case "paragraphAt": return new int[] {among(paragraphs), upTo(5), 0};
-            case "styleAt": return new int[] {among(styles), upTo(6), 0};
-            case "styleHas": return new int[] {orNone(among(styles)), property, 0};
-            case "lookAt": return new int[] {among(x.told(4)), property, 0};
-            case "apart": return new int[] {among(x.told(4)), orNone(among(x.told(4))), 0};
+            case "told": return new int[] {upTo(13)};
+            case "has": case "from": return new int[] {among(paragraphs), property};
+            case "paragraphAt": return new int[] {among(paragraphs), upTo(5)};
+            case "styleAt": return new int[] {among(styles), upTo(6)};
+            case "styleHas": return new int[] {orNone(among(styles)), property};
+            case "lookAt": return new int[] {among(y.told(4)), property};
+            case "apart": return new int[] {among(y.told(4)), orNone(among(y.told(4)))};
             case "direct": return new int[] {among(paragraphs), property, orNone(value(property))};
             case "sets": return new int[] {among(styles), property, orNone(value(property))};
-            case "ground": return new int[] {property, value(property), 0};
-            case "head": return new int[] {upTo(20), 0, 0};
-            case "apply": case "restyle": return new int[] {among(paragraphs), orNone(among(styles)), 0};
-            case "parent": case "reparent": return new int[] {among(styles), orNone(among(styles)), 0};
-            case "drop": return new int[] {among(styles), 0, 0};
-            case "take": return new int[] {among(paragraphs), 0, 0};
-            case "swap": return new int[] {among(paragraphs), among(paragraphs), 0};
-            case "drift": return new int[] {upTo(8), 0, 0};
-            case "undo": return new int[] {random.nextInt(3) == 0 ? upTo(16) : upTo(3), 0, 0};
-            case "write": return writing(x, among(paragraphs), property);
-            case "seed": return new int[] {random.nextInt(), 0, 0};
-            case "keep": case "goBack": return new int[] {upTo(2), 0, 0};
-            default: return new int[] {0, 0, 0};
+            case "ground": return new int[] {property, value(property)};
+            case "head": return new int[] {upTo(20)};
+            case "apply": case "restyle": return new int[] {among(paragraphs), orNone(among(styles))};
+            case "parent": case "reparent": return new int[] {among(styles), orNone(among(styles))};
+            case "drop": return new int[] {among(styles)};
+            case "take": return new int[] {among(paragraphs)};
+            case "swap": return new int[] {among(paragraphs), among(paragraphs)};
+            case "drift": return new int[] {upTo(8)};
+            case "undo": return new int[] {random.nextInt(3) == 0 ? upTo(16) : upTo(3)};
+            case "write": return writing(y, among(paragraphs), property);
+            case "seed": return new int[] {random.nextInt()};
+            case "keep": case "goBack": return new int[] {upTo(2)};
+            default: return new int[0];
         }
     }
 
-    private int[] writing(StyleFamilies x, int p, int property) {
-        return new int[] {p, property, random.nextInt(5) == 0 ? value(property) : x.has(p, property)};
-    }
-
-    /** Calls the method of this name with as many of the numbers as it takes. */
-    private static int answer(Object families, String name, int[] a) {
-        for (Method method : families.getClass().getDeclaredMethods()) {
-            boolean own = !Modifier.isPrivate(method.getModifiers());
-            if (own && method.getName().equals(name)) {
-                Object[] taken = new Object[method.getParameterCount()];
-                for (int i = 0; i < taken.length; i++) {
-                    taken[i] = a[i];
-                }
-                try {
-                    return (Integer) method.invoke(families, taken);
-                } catch (ReflectiveOperationException thrown) {
-                    throw new IllegalStateException(name + " threw", thrown);
-                }
-            }
-        }
-        throw new IllegalStateException("there is no " + name);
+    private int[] writing(NaiveFamilies y, int p, int property) {
+        return new int[] {p, property, random.nextInt(5) == 0 ? value(property) : y.has(p, property)};
     }
 }
