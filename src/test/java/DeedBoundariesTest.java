@@ -266,6 +266,19 @@ public final class DeedBoundariesTest {
             + "has(3, 2) = 9; adopt() = 24");
     }
 
+    /**
+     * The looks (3: 40, 4: 9) and (2: 9, 4: 9), each twice: 12 bits and 10 with the parent, or 11 with the parent and 11.
+     * Then (3: 40, 4: 9) and (0: 1, 1: 1, 3: 40): the second costs 9 bits alone and 2+7 below the first.
+     */
+    static void promise25EqualBestParentsOfTheBestStyles(Run r) {
+        r.calls("head(2); paragraph(); paragraph(); paragraph(); paragraph()");
+        r.each("direct(#, 3, 40); direct(#, 4, 9)", 0, 1);
+        r.each("direct(#, 2, 9); direct(#, 4, 9)", 2, 3);
+        r.calls("told(6) = 14+12+4; told(7) = 3; adopt() = 30; styleAt(0, 0) = NONE; styleAt(1, 0) = 0; styleAt(0, 5) = 8+16; styleAt(1, 5) = 4+8");
+        r.each("restyle(#, NONE) = 11; direct(#, 2, NONE) = 9; direct(#, 4, NONE) = 9; direct(#, 0, 1); direct(#, 1, 1); direct(#, 3, 40)", 2, 3);
+        r.calls("told(6) = 14+11+4; told(7) = 3; adopt() = 29; styleAt(0, 0) = NONE; styleAt(1, 0) = NONE; styleAt(1, 5) = 1+2+8; paragraphAt(3, 0) = 1");
+    }
+
     /** The old style 0 and the new one have nothing in common but the number. */
     static void promise25TheOldStylesAreAllReplaced(Run r) {
         r.calls("style();".repeat(6));

@@ -46,9 +46,11 @@ public final class ErrorBoundariesTest {
             + "styleHas(NONE, 6) = UNKNOWN; told(11) = NONE; told(-1) = OUTSIDE");
     }
 
-    /** Six styles, eight paragraphs, images, a full book and 16 deeds: all that a refused call could spoil. */
-    private static void everythingUsed(Run r) {
-        r.calls("seed(3); ground(5, 4); head(9); style(); style(); paragraph(); paragraph(); direct(0, 2, 5); keep(0); drift(6)");
+    /** Six styles, eight paragraphs, an image or two, a full book and 16 deeds: all that a call could spoil. */
+    private static void everythingUsed(Run r, int images) {
+        r.calls("seed(3); ground(5, 4); head(9); style(); style(); paragraph(); paragraph(); direct(0, 2, 5)");
+        r.calls(images == 2 ? "keep(0); head(8); keep(1)" : "keep(0)");
+        r.calls("drift(6)");
         r.calls("style();".repeat(4));
         r.calls("parent(1, 0); parent(2, 1); sets(0, 3, 7); sets(1, 3, 8); apply(7, 2); apply(6, 1)");
         r.calls("write(0, 2, 5);".repeat(20));
@@ -56,13 +58,13 @@ public final class ErrorBoundariesTest {
     }
 
     static void sentenceACallThatReturnsAnErrorChangesNothingOfThoseThatTell(Run r) {
-        everythingUsed(r);
+        everythingUsed(r, 2);
         r.calls("told(14) = OUTSIDE; has(8, 0) = UNKNOWN; from(8, 0) = UNKNOWN; paragraphAt(8, 0) = UNKNOWN; paragraphAt(0, 6) = OUTSIDE;"
             + "styleAt(6, 0) = UNKNOWN; styleAt(0, 7) = OUTSIDE; styleHas(6, 0) = UNKNOWN; lookAt(8, 0) = UNKNOWN; apart(0, 8) = UNKNOWN");
     }
 
     static void sentenceACallThatReturnsAnErrorChangesNothingOfTheDeeds(Run r) {
-        everythingUsed(r);
+        everythingUsed(r, 2);
         r.calls("paragraph() = FULL; style() = FULL; direct(8, 0, 0) = UNKNOWN; direct(0, 2, 100) = OUTSIDE; sets(6, 0, 0) = UNKNOWN;"
             + "sets(0, 3, 100) = OUTSIDE; ground(6, 0) = UNKNOWN; ground(5, 10) = OUTSIDE; head(21) = OUTSIDE; apply(8, 0) = UNKNOWN;"
             + "apply(7, 6) = UNKNOWN; parent(6, 0) = UNKNOWN; parent(1, 6) = UNKNOWN; parent(0, 2) = NOT; restyle(8, 0) = UNKNOWN;"
@@ -71,11 +73,32 @@ public final class ErrorBoundariesTest {
         r.calls("told(11) = NONE; told(12) = 16");
     }
 
-    static void sentenceACallThatReturnsAnErrorChangesNothingOfUndoBookAndImages(Run r) {
-        everythingUsed(r);
+    static void sentenceACallThatReturnsAnErrorChangesNothingOfUndoAndBook(Run r) {
+        everythingUsed(r, 2);
         r.calls("undo(0) = OUTSIDE; undo(17) = OUTSIDE; undo(4) = 12; undo(13) = NOT; write(8, 0, 0) = UNKNOWN; write(0, 0, 1) = FULL;"
-            + "seed(-1) = OUTSIDE; keep(2) = UNKNOWN; keep(-1) = UNKNOWN; goBack(1) = NOT; goBack(2) = UNKNOWN; goBack(-1) = UNKNOWN;"
-            + "told(11) = NONE; told(12) = 12");
+            + "seed(-1) = OUTSIDE; told(11) = NONE; told(12) = 12");
+    }
+
+    static void sentenceACallThatReturnsAnErrorChangesNothingOfTheImages(Run r) {
+        everythingUsed(r, 2);
+        r.calls("keep(2) = UNKNOWN; keep(-1) = UNKNOWN; goBack(2) = UNKNOWN; goBack(-1) = UNKNOWN");
+        r.anew();
+        everythingUsed(r, 1);
+        r.calls("keep(2) = UNKNOWN; goBack(1) = NOT; goBack(2) = UNKNOWN; told(12) = 16");
+    }
+
+    static void sentenceTheFiguresChangeNothing(Run r) {
+        everythingUsed(r, 2);
+        for (int what = 0; what <= 13; what++) {
+            r.tells("told(" + what + ")");
+        }
+        for (int what = 0; what <= 6; what++) {
+            r.tells("styleAt(2, " + what + ")");
+        }
+        for (int what = 0; what <= 5; what++) {
+            r.tells("paragraphAt(7, " + what + ")");
+        }
+        r.tells("has(0, 2) = 5; from(0, 2) = 1; from(7, 5); styleHas(2, 3) = 8; styleHas(NONE, 5) = 4; lookAt(0, 5); apart(0, NONE); apart(0, 1)");
     }
 
     static void sentenceAnObjectIsUsedForAtMost512Calls(Run r) {

@@ -54,11 +54,12 @@ final class Run {
     }
 
     void calls(String text) {
-        for (String part : text.split(";")) {
-            if (!part.isBlank()) {
-                oneCall(part.trim());
-            }
-        }
+        make(text, false);
+    }
+
+    /** Calls that only tell: behind each of them nothing has changed. */
+    void tells(String text) {
+        make(text, true);
     }
 
     /** The calls once for each of the numbers, which stands in place of #. */
@@ -68,21 +69,28 @@ final class Run {
         }
     }
 
-    private void oneCall(String text) {
-        String[] sides = text.split(" = ");
-        Call call = parsed(sides[0]);
+    private void make(String text, boolean tells) {
+        for (String part : text.split(";")) {
+            if (!part.isBlank()) {
+                String[] sides = part.trim().split(" = ");
+                String label = test + ": call " + (made.size() + 1) + ", " + sides[0];
+                int got = answer(parsed(sides[0]));
+                if (sides.length < 2) {
+                    due.isTrue(label + ", which prepares only, is not refused", !isError(got));
+                } else {
+                    due.is(label, got, sum(sides[1]));
+                }
+                if (tells || isError(got)) {
+                    nothingHasChanged(label);
+                }
+            }
+        }
+    }
+
+    private int answer(Call call) {
         made.add(call);
         spare(made.size());
-        int got = call.on(x);
-        String label = test + ": call " + made.size() + ", " + sides[0];
-        if (sides.length < 2) {
-            due.isTrue(label + ", which prepares only, is not refused", !isError(got));
-            return;
-        }
-        due.is(label, got, sum(sides[1]));
-        if (isError(got)) {
-            nothingHasChanged(label);
-        }
+        return call.on(x);
     }
 
     private static Call parsed(String text) {

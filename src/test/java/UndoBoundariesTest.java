@@ -4,18 +4,28 @@ public final class UndoBoundariesTest {
         Run.all(UndoBoundariesTest.class);
     }
 
-    /** Two styles, the later below the first, and two paragraphs; nothing to undo. */
+    /** Two styles, the later below the first, two paragraphs, an entry and two images; nothing to undo. */
     private static void family(Run r) {
-        r.calls("style(); style(); parent(1, 0); sets(0, 2, 40); paragraph(); paragraph(); apply(0, 1); direct(1, 4, 9); keep(0)");
+        r.calls("style(); style(); parent(1, 0); sets(0, 2, 40); paragraph(); paragraph(); apply(0, 1); direct(1, 4, 9); write(0, 2, 40);"
+            + "seed(5); keep(0); keep(1)");
     }
 
+    private static void asTheFamilyWas(Run r) {
+        r.calls("told(0) = 2; told(1) = 2; told(2) = 11+8+1+7; told(9) = 6; styleAt(1, 0) = 0; styleAt(0, 5) = 4; styleAt(1, 5) = 0;"
+            + "paragraphAt(0, 0) = 1; paragraphAt(0, 5) = 0; paragraphAt(1, 0) = NONE; paragraphAt(1, 5) = 16;"
+            + "styleHas(NONE, 3) = 0; has(0, 2) = 40; has(1, 4) = 9; told(10) = 1; told(11) = NONE");
+    }
+
+    /** Makes a call that is one deed and does not touch the random number, the book and the images. */
     private static void isOneDeed(Run r, String call) {
         r.anew();
         family(r);
-        r.calls("told(12) = 0; " + call + "; told(12) = 1; undo(1) = 0; undo(1) = NOT");
-        r.calls("told(0) = 2; told(1) = 2; told(2) = 11+8+1+7; told(9) = 6; styleAt(1, 0) = 0; styleAt(0, 5) = 4; styleAt(1, 5) = 0;"
-            + "paragraphAt(0, 0) = 1; paragraphAt(0, 5) = 0; paragraphAt(1, 0) = NONE; paragraphAt(1, 5) = 16;"
-            + "styleHas(NONE, 3) = 0; has(0, 2) = 40; has(1, 4) = 9");
+        r.calls("told(12) = 0; " + call + "; told(12) = 1; told(13) = 5; undo(1) = 0; undo(1) = NOT");
+        asTheFamilyWas(r);
+        r.calls("goBack(0) = 1; told(13) = 5");
+        asTheFamilyWas(r);
+        r.calls("goBack(1) = 1");
+        asTheFamilyWas(r);
     }
 
     static void sentenceTheDeedsAreTheSuccessfulCallsOf16Methods(Run r) {
@@ -35,7 +45,7 @@ public final class UndoBoundariesTest {
         isOneDeed(r, "tidy() = 0");
         isOneDeed(r, "knit() = 11+8+1+7");
         isOneDeed(r, "adopt() = 5+7");
-        isOneDeed(r, "drift(1) = 3");
+        isOneDeed(r, "drift(1) = 3; seed(5)");
     }
 
     static void sentenceADeedCountsAlsoIfNothingBecomesDifferent(Run r) {
@@ -60,6 +70,20 @@ public final class UndoBoundariesTest {
         r.calls("style(); paragraph(); told(12) = 2; has(0, 0); from(0, 0); paragraphAt(0, 0); styleAt(0, 0); styleHas(0, 0);"
             + "lookAt(0, 0); apart(0, NONE); told(7); write(0, 0, 1); tear(); write(0, 0, 1); seed(5); told(12) = 2;"
             + "undo(1) = 1; told(12) = 1; told(0) = 0; told(1) = 1; keep(0); told(12) = 0; style(); told(12) = 1; goBack(0); told(12) = 0");
+    }
+
+    /** The book, the random number and the images have nothing to do with each other, nor with what can be undone. */
+    static void sentenceWriteTearAndSeedChangeNothingElse(Run r) {
+        for (String call : new String[] {"tear() = 1; write(0, 2, 40) = 1", "write(0, 0, 0) = 2; tear() = 2; write(0, 2, 40)", "seed(9) = 5; seed(5) = 9"}) {
+            r.anew();
+            family(r);
+            r.calls("direct(0, 2, 40) = NONE; " + call + "; told(13) = 5; told(12) = 1; told(3) = 1; undo(1) = 0");
+            asTheFamilyWas(r);
+            r.calls("goBack(0) = 1; told(13) = 5");
+            asTheFamilyWas(r);
+            r.calls("goBack(1) = 1; told(13) = 5");
+            asTheFamilyWas(r);
+        }
     }
 
     static void sentenceARefusedCallIsNoDeed(Run r) {
